@@ -244,6 +244,10 @@ public final class LineBuffers {
         if (!isIn(wanted, 0, MAX_RUN)) {
             throw new IllegalArgumentException("wanted is out of range");
         }
+        // No capacity takes the line above its bound.
+        if (line.mostBottles(line.findSlowest(ticks), ticks) < wanted) {
+            return NONE;
+        }
         for (int capacity = 0; capacity <= MAX_PLACES; capacity++) {
             if (tryCapacity(machine, capacity, ticks) >= wanted) {
                 return capacity;

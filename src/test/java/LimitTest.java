@@ -70,6 +70,14 @@ final class LimitTest {
         Expect.thrown(Expect.ARGUMENT, x, "slowest(10001)", () -> x.slowest(10001));
     }
 
+    static void promises19To21WorkWithOneMachine() {
+        LineBuffers x = Expect.lineOf("m3,3,0;");
+        x.run(7);
+        Expect.equal("bound(7)", 2, x.bound(7));
+        Expect.equal("slowest(7)", 0, x.slowest(7));
+        Expect.equal("limiting()", 0, x.limiting());
+    }
+
     static void promise20FindsTheFewestIdleTicks() {
         LineBuffers x = Expect.lineOf("m1,1,1;m3,3,5;m1,1,0;");
         Expect.equal("of several the lowest", 0, x.limiting());

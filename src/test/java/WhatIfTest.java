@@ -156,6 +156,26 @@ final class WhatIfTest {
         Expect.settings(x, 0, 1, 1, 0, 40, 40);
     }
 
+    static void promise24LeavesTheLastBufferOut() {
+        // With more places the first machine meets its high mark, and works slowly then.
+        LineBuffers x = Expect.lineOf("m9,1,1;m2,2,0;h0,0,2;");
+        Expect.isTrue("more places do harm", x.outputWith(0, 6, 50) < x.outputWith(1, 6, 50));
+        Expect.equal("bestBuffer(50, 5)", 0, x.bestBuffer(50, 5));
+    }
+
+    static void promises22To24LeaveNothingBehind() {
+        LineBuffers x = Expect.lineOf("m1,1,5;m2,2,5;");
+        x.addStop(0, 3, 3);
+        x.outputWith(0, 3, 30);
+        Expect.append(x, "m4,4,4;");
+        Expect.equal("parse()", 1, x.parse());
+        Expect.equal("now()", 0, x.now());
+        Expect.equal("size(true)", 0, x.size(true));
+        Expect.settings(x, 0, 4, 4, 0, 40, 4);
+        Expect.machine(x, 0, 0, LineBuffers.NONE, 1, 0);
+        Expect.counts(x, 0, 0, 0, 0, 0, 0, 0);
+    }
+
     static void promise24RefusesWrongArguments() {
         LineBuffers x = Expect.lineOf("m1,1,0;");
         Expect.thrown(Expect.STATE, x, "one machine", () -> x.bestBuffer(1, 1));
