@@ -9,8 +9,10 @@ import java.util.List;
 public final class AllTests {
     private static final List<Class<?>> CLASSES = List.of(
             MachineTest.class, StopTest.class, TimeTest.class, TurnTest.class, LimitTest.class,
-            WhatIfTest.class, TextTest.class, StateTest.class, RandomCallsTest.class,
-            LanguageTest.class);
+            WhatIfTest.class, TextTest.class, StateTest.class,
+            LineEdges.class, StopEdges.class, SpeedEdges.class, TickEdges.class, TimeEdges.class,
+            LimitEdges.class, WhatIfEdges.class, TextEdges.class, StateEdges.class,
+            RandomCallsTest.class, LanguageTest.class);
 
     private AllTests() {
     }
@@ -49,6 +51,10 @@ public final class AllTests {
             return true;
         } catch (InvocationTargetException e) {
             System.out.println("failed: " + name + ": " + e.getCause());
+            Sentence sentence = method.getAnnotation(Sentence.class);
+            if (sentence != null) {
+                System.out.println("    the document (" + sentence.of() + ") says: " + sentence.says());
+            }
             return false;
         } catch (ReflectiveOperationException e) {
             System.out.println("failed: " + name + ": " + e);

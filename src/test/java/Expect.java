@@ -1,3 +1,5 @@
+import java.util.function.IntConsumer;
+
 /** What the tests expect, and lines that several of them use. */
 final class Expect {
     static final Class<IllegalArgumentException> ARGUMENT = IllegalArgumentException.class;
@@ -38,6 +40,26 @@ final class Expect {
             throw new AssertionError(what + " threw " + got + ", due is " + due.getName());
         }
         equal("digest() after " + what, before, x.digest());
+    }
+
+    /** The numbers at both ends of the range are taken; those beside it and far away are refused. */
+    static void range(LineBuffers x, String what, int least, int most, IntConsumer call) {
+        for (int wrong : new int[] {least - 1, most + 1, Integer.MIN_VALUE, Integer.MAX_VALUE}) {
+            thrown(ARGUMENT, x, what + " " + wrong, () -> call.accept(wrong));
+        }
+        call.accept(least);
+        call.accept(most);
+    }
+
+    /** The things from 0 to below the number are there; those beside them and far away are not. */
+    static void indexes(LineBuffers x, String what, int number, IntConsumer call) {
+        for (int wrong : new int[] {-1, number, Integer.MIN_VALUE, Integer.MAX_VALUE}) {
+            thrown(INDEX, x, what + " " + wrong, () -> call.accept(wrong));
+        }
+        if (number > 0) {
+            call.accept(0);
+            call.accept(number - 1);
+        }
     }
 
     static void append(LineBuffers x, String text) {
