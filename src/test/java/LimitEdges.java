@@ -40,6 +40,19 @@ final class LimitEdges {
         Expect.equal("bound(20)", 11, x.bound(20));
     }
 
+    @Sentence(of = "Limits", says = "(ticks of 1 to T at which it is not down)")
+    static void theTicksOfAllFortyStopsCount() {
+        LineBuffers x = Expect.lineOf("m1,1,0;");
+        for (int k = 1; k <= 40; k++) {
+            x.addStop(0, 10000 - 100 * k, 50);
+        }
+        // The last stop ends with tick 9949, the first one begins at 6000.
+        Expect.equal("bound(5999)", 5999, x.bound(5999));
+        Expect.equal("bound(6000)", 5999, x.bound(6000));
+        Expect.equal("bound(9950)", 7950, x.bound(9950));
+        Expect.equal("bound(10000)", 8000, x.bound(10000));
+    }
+
     @Sentence(of = "Limits", says = "/ (fast cycle), each rounded down.")
     static void theBoundIsRoundedDown() {
         LineBuffers x = Expect.lineOf("m20,7,0;");
@@ -66,6 +79,16 @@ final class LimitEdges {
         Expect.counts(y, 0, 3, 0, 3, 20);
         Expect.counts(y, 1, 3, 18, 0, 5);
         Expect.equal("limiting()", 0, y.limiting());
+    }
+
+    @Sentence(of = "Limits", says = "is the one with the fewest starved and blocked ticks together,")
+    static void downTicksAreNeitherStarvedNorBlocked() {
+        LineBuffers x = Expect.lineOf("m1,1,3;m1,1,0;");
+        x.addStop(1, 1, 9);
+        x.run(9);
+        Expect.counts(x, 0, 4, 0, 5, 0);
+        Expect.counts(x, 1, 0, 0, 0, 9);
+        Expect.equal("limiting()", 1, x.limiting());
     }
 
     @Sentence(of = "Limits", says = "of several the one with the lowest number.")

@@ -5,12 +5,13 @@ final class TextEdges {
     private TextEdges() {
     }
 
-    /** Reads the text over a line that is in use, which stays if there is an error. */
+    /** Reads the text over a line that is in use (what-if calls, too), which stays if there is an error. */
     private static LineBuffers reads(String text, int due) {
         LineBuffers x = new LineBuffers();
         x.addMachine(7, 6, 5);
         x.addStop(0, 3, 3);
         x.run(4);
+        x.outputWith(0, 3, 9);
         Expect.append(x, text);
         long before = x.digest();
         Expect.equal("parse() of " + text, due, x.parse());
@@ -254,11 +255,13 @@ final class TextEdges {
     @Sentence(of = "Promise 26", says = "Empties the line text.")
     static void clearTextLeavesNothingOfTheOldText() {
         LineBuffers x = new LineBuffers();
-        Expect.append(x, "x".repeat(120));
+        Expect.append(x, EIGHT);
         x.clearText();
         Expect.equal("no items", 0, x.parse());
         Expect.append(x, "m1,1,1");
         Expect.equal("ends too early", -16, x.parse());
+        x.append(';');
+        Expect.equal("one item", 1, x.parse());
     }
 
     @Sentence(of = "Promise 27", says = "at tick 0, without stops.")

@@ -5,7 +5,7 @@ final class TimeEdges {
 
     /** A line whose machines hold bottles, and have been starved, blocked and down. */
     private static LineBuffers usedLine() {
-        LineBuffers x = Expect.lineOf("m6,1,3;m9,9,2;m2,1,4;h0,0,2;");
+        LineBuffers x = Expect.lineOf("m6,1,2;m9,9,2;m2,1,4;h0,0,2;");
         x.addStop(2, 12, 3);
         x.addStop(0, 20, 2);
         x.run(21);
@@ -112,7 +112,9 @@ final class TimeEdges {
     @Sentence(of = "Promise 11", says = "all counts are 0,")
     static void restartClearsCounts() {
         LineBuffers x = usedLine();
-        Expect.isTrue("output", x.output() > 0);
+        for (int what = 0; what < 6; what++) {
+            Expect.isTrue("count " + what, x.count(0, what) + x.count(1, what) + x.count(2, what) > 0);
+        }
         x.restart();
         for (int m = 0; m < 3; m++) {
             Expect.counts(x, m, 0, 0, 0, 0, 0, 0);
@@ -139,7 +141,7 @@ final class TimeEdges {
         LineBuffers x = usedLine();
         long before = x.digest();
         x.restart();
-        Expect.settings(x, 0, 6, 1, 0, 2, 3);
+        Expect.settings(x, 0, 6, 1, 0, 2, 2);
         Expect.settings(x, 1, 9, 9, 0, 40, 2);
         Expect.settings(x, 2, 2, 1, 0, 40, 4);
         Expect.equal("size(true)", 2, x.size(true));
