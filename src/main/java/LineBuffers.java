@@ -14,6 +14,8 @@ public final class LineBuffers {
     private static final int MAX_RUN = 2000;
     private static final int MAX_SAVED = 4;
     private static final int MAX_TEXT = 120;
+    // Above every tick, and every number of ticks or bottles.
+    private static final int ABOVE_ALL = 1000000;
 
     // The columns of a machine's row stand in the order in which setting(), machine(), count()
     // and digest() ask for them.
@@ -412,7 +414,7 @@ public final class LineBuffers {
 
         /** Finds the machines that are down at a tick; answers the next tick at which that may change. */
         int lookAt(int tick) {
-            int change = Integer.MAX_VALUE;
+            int change = ABOVE_ALL;
             downBits = 0;
             for (int k = 0; k < planned; k++) {
                 int first = firstOf[k];
@@ -614,7 +616,7 @@ public final class LineBuffers {
 
         int findLimiting() {
             int found = 0;
-            int fewest = Integer.MAX_VALUE;
+            int fewest = ABOVE_ALL;
             for (int m = 0; m < machines; m++) {
                 int idle = rows[m][STARVED_TICKS] + rows[m][BLOCKED_TICKS];
                 if (idle < fewest) {
@@ -627,7 +629,7 @@ public final class LineBuffers {
 
         int findSlowest(int ticks) {
             int found = 0;
-            int fewest = Integer.MAX_VALUE;
+            int fewest = ABOVE_ALL;
             for (int m = 0; m < machines; m++) {
                 int most = mostBottles(m, ticks);
                 if (most < fewest) {

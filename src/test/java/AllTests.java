@@ -12,7 +12,7 @@ public final class AllTests {
             WhatIfTest.class, TextTest.class, StateTest.class,
             LineEdges.class, StopEdges.class, SpeedEdges.class, TickEdges.class, TimeEdges.class,
             LimitEdges.class, WhatIfEdges.class, TextEdges.class, StateEdges.class,
-            RandomCallsTest.class, LanguageTest.class);
+            RandomCallsTest.class, ReadmeTest.class, LanguageTest.class);
 
     private AllTests() {
     }

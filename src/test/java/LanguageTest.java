@@ -87,7 +87,7 @@ final class LanguageTest {
     static void rules02To13FindNoForbiddenWord() {
         String words = "->|::|\\b(?:import|package|catch|try|finally|synchronized|assert|protected|float|instanceof"
                 + "|Object|Thread|System\\.(?!arraycopy)\\w+|Random|equals|hashCode|toString|\\w+Exact|NaN|var"
-                + "|Math\\.(?!min|max|abs)\\w+)\\b|\"\"\\s*\\+|\\+\\s*\"\"";
+                + "|(?:Integer|Long)\\.[A-Z]\\w*|Math\\.(?!min|max|abs)\\w+)\\b|\"\"\\s*\\+|\\+\\s*\"\"";
         Matcher found = Pattern.compile(words).matcher(code());
         if (found.find()) {
             throw new AssertionError("forbidden: " + found.group());
